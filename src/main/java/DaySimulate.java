@@ -546,7 +546,7 @@ public final class DaySimulate {
             return count;
         }
 
-        /** A long, for a thousand times this may be above what an int holds. */
+        /** A long, for a thousand times this comes close to what an int holds. */
         long sumOfDelays() {
             long sum = 0;
             for (int i = 0; i < day.calls; i++) {
