@@ -30,7 +30,6 @@ public final class DaySimulate {
 
     private final Town town;
     private final Fleet fleet;
-    private final Day drawn;
     private final Play play;
     private int pace;
     private int mark;
@@ -38,8 +37,7 @@ public final class DaySimulate {
     public DaySimulate() {
         town = new Town();
         fleet = new Fleet();
-        drawn = new Day();
-        play = new Play(town, drawn);
+        play = new Play();
         pace = 1;
         mark = 10;
     }
@@ -86,6 +84,7 @@ public final class DaySimulate {
     }
 
     public int call(int i, int what) throws IllegalArgumentException {
+        Day drawn = play.day;
         needKnown(isBelow(i, drawn.calls));
         switch (what) {
             case 0:
@@ -107,11 +106,11 @@ public final class DaySimulate {
 
     public int share(int what) throws IllegalArgumentException, ArithmeticException {
         needKnown(isWithin(what, 0, 1));
-        if (drawn.calls == 0) {
+        int calls = play.day.calls;
+        if (calls == 0) {
             throw new ArithmeticException("the run has no calls");
         }
-        int inTime = drawn.calls - play.countLate(mark);
-        return lowestTerm(inTime, drawn.calls, what == 0);
+        return lowestTerm(calls - play.countLate(mark), calls, what == 0);
     }
 
     public int mean() throws ArithmeticException {
@@ -183,8 +182,8 @@ public final class DaySimulate {
     }
 
     private int lateOn(int variant, int seed, int day, int calls) {
-        drawn.draw(town, seed, day, calls);
-        play.begin(fleet, variant, pace);
+        play.day.draw(town, seed, day, calls);
+        play.begin(town, fleet, variant, pace);
         play.playOut();
         return play.countLate(mark);
     }
@@ -359,23 +358,17 @@ public final class DaySimulate {
 
     /** One run of a drawn day: who was sent when, and what came of it. */
     private static final class Play {
-        final Town town;
-        final Day day;
+        final Day day = new Day();
         final int[] unitOf = new int[MAX_CALLS];
         final int[] wayOf = new int[MAX_CALLS];
         final int[] arrival = new int[MAX_CALLS];
         final int[] workOf = new int[MAX_UNITS];
-        private final int[] post = new int[MAX_UNITS];
+        private final boolean[] leftOut = new boolean[MAX_UNITS];
+        private final int[][] wayTo = new int[MAX_UNITS][MAX_AREAS];
         private final int[] backAt = new int[MAX_UNITS];
         private final int[] lateInHour = new int[HOURS];
         private int units = 0;
-        private int pace = 1;
         int missedMinutes = 0;
-
-        Play(Town town, Day day) {
-            this.town = town;
-            this.day = day;
-        }
 
         void forget() {
             day.calls = 0;
@@ -385,18 +378,26 @@ public final class DaySimulate {
             }
         }
 
-        /** The run has its own copy of the variant, so that later changes leave what it tells. */
-        void begin(Fleet fleet, int variant, int paceNow) {
+        void begin(Town town, Fleet fleet, int variant, int pace) {
             units = fleet.units;
-            pace = paceNow;
             missedMinutes = 0;
             for (int u = 0; u < MAX_UNITS; u++) {
-                post[u] = fleet.stationOf[variant][u];
                 backAt[u] = 0;
                 workOf[u] = 0;
             }
+            for (int u = 0; u < units; u++) {
+                post(town, u, fleet.stationOf[variant][u], pace);
+            }
             for (int i = 0; i < MAX_CALLS; i++) {
                 unitOf[i] = NONE;
+            }
+        }
+
+        /** A unit's ways are worked out once a run, for they are asked again with every sending. */
+        private void post(Town town, int u, int station, int pace) {
+            leftOut[u] = station == NONE;
+            for (int a = 0; a < town.areas && station != NONE; a++) {
+                wayTo[u][a] = town.wayMinutes(station, a, pace);
             }
         }
 
@@ -428,7 +429,7 @@ public final class DaySimulate {
         }
 
         private void send(int i, int u, int now) {
-            int way = town.wayMinutes(post[u], day.area[i], pace);
+            int way = wayTo[u][day.area[i]];
             unitOf[i] = u;
             wayOf[i] = way;
             arrival[i] = now + way;
@@ -459,19 +460,16 @@ public final class DaySimulate {
             int best = NONE;
             int least = NEVER;
             for (int u = 0; u < units; u++) {
-                if (isFree(u, now)) {
-                    int way = town.wayMinutes(post[u], area, pace);
-                    if (way < least) {
-                        least = way;
-                        best = u;
-                    }
+                if (isFree(u, now) && wayTo[u][area] < least) {
+                    least = wayTo[u][area];
+                    best = u;
                 }
             }
             return best;
         }
 
         private boolean isFree(int u, int now) {
-            return post[u] != NONE && backAt[u] <= now;
+            return !leftOut[u] && backAt[u] <= now;
         }
 
         private boolean isAnyFree(int now) {

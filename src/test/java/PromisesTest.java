@@ -145,9 +145,13 @@ public final class PromisesTest {
             Check.refused("4 there in variant " + v, STATE, () -> d.unit(0));
             d.change(variant, 3, -1);
             Check.due("3 there again in variant " + v, 4, () -> d.unit(0));
-            d.change(variant, 4, 1);
-            Check.refused("4 there in variant 0 alone of the two", STATE, () -> d.unit(0));
         }
+        DaySimulate d = stations(2);
+        units(d, 0, 4);
+        for (int v = 1; v <= 3; v++) {
+            d.change(v, 3, 1);
+        }
+        Check.refused("4 there in variant 0 alone", STATE, () -> d.unit(0));
     }
 
     private static void promise5() {
@@ -407,6 +411,8 @@ public final class PromisesTest {
         d.change(1, 0, -1);
         d.run(1, 0, 0, 5);
         Check.due("no units: all minutes", 1440, d::missed);
+        d.run(1, 0, 0, 0);
+        Check.due("no units and no calls: all minutes", 1440, d::missed);
         d.unit(0);
         d.run(0, 854, 0, 3);
         // unit 0 is out 385 .. 456, unit 1 397 .. 412 and 433 .. 508
