@@ -191,7 +191,7 @@ public final class ModelTest {
         try {
             return Long.toString(answer.get());
         } catch (RuntimeException e) {
-            return e.getClass().getSimpleName();
+            return Check.name(e);
         }
     }
 }

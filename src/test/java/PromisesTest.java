@@ -3,11 +3,6 @@
  * lasts), were worked out from the document's MIX apart from the class.
  */
 public final class PromisesTest {
-    private static final Class<IllegalArgumentException> UNKNOWN = IllegalArgumentException.class;
-    private static final Class<IndexOutOfBoundsException> RANGE = IndexOutOfBoundsException.class;
-    private static final Class<IllegalStateException> STATE = IllegalStateException.class;
-    private static final Class<UnsupportedOperationException> ROOM = UnsupportedOperationException.class;
-    private static final Class<ArithmeticException> NONE = ArithmeticException.class;
     private static final int MIN = Integer.MIN_VALUE;
     private static final int MAX = Integer.MAX_VALUE;
 
@@ -37,67 +32,44 @@ public final class PromisesTest {
         Check.finish();
     }
 
-    /** One unit at 0, 0 and one area so far along x. */
-    private static DaySimulate one(int distance) {
-        DaySimulate d = new DaySimulate();
-        d.station(0, 0);
-        d.area(distance, 0, 1);
-        d.unit(0);
-        return d;
-    }
-
-    private static DaySimulate stations(int count) {
-        DaySimulate d = new DaySimulate();
-        for (int k = 0; k < count; k++) {
-            d.station(10 * k, 0);
-        }
-        return d;
-    }
-
-    private static void units(DaySimulate d, int station, int count) {
-        for (int k = 0; k < count; k++) {
-            d.unit(station);
-        }
-    }
-
     private static void noRun(String when, DaySimulate d) {
         Check.due(when + " missed", 0, d::missed);
         Check.due(when + " worst", -1, d::worst);
         Check.due(when + " arrived(0)", 0, () -> d.arrived(0));
         Check.due(when + " arrived(9999)", 0, () -> d.arrived(9999));
-        Check.refused(when + " mean", NONE, d::mean);
-        Check.refused(when + " share(0)", NONE, () -> d.share(0));
-        Check.refused(when + " share(1)", NONE, () -> d.share(1));
-        Check.refused(when + " share(2)", UNKNOWN, () -> d.share(2));
-        Check.refused(when + " call(0, 0)", UNKNOWN, () -> d.call(0, 0));
+        Check.refused(when + " mean", Check.NONE, d::mean);
+        Check.refused(when + " share(0)", Check.NONE, () -> d.share(0));
+        Check.refused(when + " share(1)", Check.NONE, () -> d.share(1));
+        Check.refused(when + " share(2)", Check.UNKNOWN, () -> d.share(2));
+        Check.refused(when + " call(0, 0)", Check.UNKNOWN, () -> d.call(0, 0));
     }
 
     private static void promise1() {
         DaySimulate d = new DaySimulate();
         noRun("new", d);
-        Check.refused("new work(0)", UNKNOWN, () -> d.work(0));
-        Check.refused("new unit(0)", UNKNOWN, () -> d.unit(0));
-        Check.refused("new run with calls", STATE, () -> d.run(0, 1, 1, 1));
+        Check.refused("new work(0)", Check.UNKNOWN, () -> d.work(0));
+        Check.refused("new unit(0)", Check.UNKNOWN, () -> d.unit(0));
+        Check.refused("new run with calls", Check.STATE, () -> d.run(0, 1, 1, 1));
         Check.due("new run without calls", 0, () -> d.run(0, 1, 1, 0));
-        Check.due("way of 10 at the first pace and mark", 0, () -> one(40).run(0, 0, 0, 1));
-        Check.due("way of 11 at the first pace and mark", 1, () -> one(41).run(0, 0, 0, 1));
+        Check.due("way of 10 at the first pace and mark", 0, () -> Towns.one(40).run(0, 0, 0, 1));
+        Check.due("way of 11 at the first pace and mark", 1, () -> Towns.one(41).run(0, 0, 0, 1));
     }
 
     private static void promise2() {
         DaySimulate d = new DaySimulate();
         int[][] wrong = {{-1, 0}, {100, 0}, {0, -1}, {0, 100}, {MIN, 5}, {5, MAX}};
         for (int[] p : wrong) {
-            Check.refused("station(" + p[0] + ", " + p[1] + ")", RANGE, () -> d.station(p[0], p[1]));
+            Check.refused("station(" + p[0] + ", " + p[1] + ")", Check.RANGE, () -> d.station(p[0], p[1]));
         }
         int[][] right = {{0, 0}, {99, 99}, {0, 99}, {99, 0}, {50, 50}, {50, 50}};
         for (int k = 0; k < 6; k++) {
             int[] p = right[k];
             Check.due("station " + k, k, () -> d.station(p[0], p[1]));
         }
-        Check.refused("station 6", ROOM, () -> d.station(1, 1));
-        Check.refused("station 6 at no place", RANGE, () -> d.station(100, 1));
+        Check.refused("station 6", Check.ROOM, () -> d.station(1, 1));
+        Check.refused("station 6 at no place", Check.RANGE, () -> d.station(100, 1));
         Check.due("unit at station 5", 0, () -> d.unit(5));
-        Check.refused("unit at station 6", UNKNOWN, () -> d.unit(6));
+        Check.refused("unit at station 6", Check.UNKNOWN, () -> d.unit(6));
     }
 
     private static void promise3() {
@@ -105,70 +77,70 @@ public final class PromisesTest {
         int[][] wrong = {{-1, 0, 1}, {100, 0, 1}, {0, -1, 1}, {0, 100, 1}, {0, 0, 0}, {0, 0, 51}, {0, 0, -1},
             {0, 0, MIN}, {0, 0, MAX}};
         for (int[] p : wrong) {
-            Check.refused("area " + p[0] + " " + p[1] + " " + p[2], RANGE, () -> d.area(p[0], p[1], p[2]));
+            Check.refused("area " + p[0] + " " + p[1] + " " + p[2], Check.RANGE, () -> d.area(p[0], p[1], p[2]));
         }
-        Check.refused("still no areas", STATE, () -> d.run(0, 0, 0, 1));
+        Check.refused("still no areas", Check.STATE, () -> d.run(0, 0, 0, 1));
         for (int k = 0; k < 10; k++) {
             int number = k;
             Check.due("area " + k, k, () -> d.area(number * 11, 99, number % 2 == 0 ? 1 : 50));
         }
-        Check.refused("area 10", ROOM, () -> d.area(1, 1, 1));
-        Check.refused("area 10 of no weight", RANGE, () -> d.area(1, 1, 0));
+        Check.refused("area 10", Check.ROOM, () -> d.area(1, 1, 1));
+        Check.refused("area 10 of no weight", Check.RANGE, () -> d.area(1, 1, 0));
     }
 
     private static void promise4() {
-        DaySimulate d = stations(4);
-        Check.refused("unit(-1)", UNKNOWN, () -> d.unit(-1));
-        Check.refused("unit(4)", UNKNOWN, () -> d.unit(4));
-        Check.refused("unit(MAX)", UNKNOWN, () -> d.unit(MAX));
+        DaySimulate d = Towns.stations(4);
+        Check.refused("unit(-1)", Check.UNKNOWN, () -> d.unit(-1));
+        Check.refused("unit(4)", Check.UNKNOWN, () -> d.unit(4));
+        Check.refused("unit(MAX)", Check.UNKNOWN, () -> d.unit(MAX));
         for (int k = 0; k < 12; k++) {
             int number = k;
             Check.due("unit " + k, k, () -> d.unit(number / 4));
             if (k % 4 == 3) {
-                Check.refused("a fifth unit at " + k / 4, STATE, () -> d.unit(number / 4));
+                Check.refused("a fifth unit at " + k / 4, Check.STATE, () -> d.unit(number / 4));
             }
         }
-        Check.refused("a 13th unit", ROOM, () -> d.unit(3));
-        Check.refused("a 13th unit at a full station", STATE, () -> d.unit(0));
-        Check.refused("a 13th unit at no station", UNKNOWN, () -> d.unit(4));
-        Check.refused("work of a 13th unit", UNKNOWN, () -> d.work(12));
+        Check.refused("a 13th unit", Check.ROOM, () -> d.unit(3));
+        Check.refused("a 13th unit at a full station", Check.STATE, () -> d.unit(0));
+        Check.refused("a 13th unit at no station", Check.UNKNOWN, () -> d.unit(4));
+        Check.refused("work of a 13th unit", Check.UNKNOWN, () -> d.work(12));
         Check.due("work of the 12th", 0, () -> d.work(11));
     }
 
     private static void promise4InVariants() {
         for (int v = 1; v <= 3; v++) {
             int variant = v;
-            DaySimulate d = stations(2);
-            units(d, 0, 3);
-            units(d, 1, 1);
+            DaySimulate d = Towns.stations(2);
+            Towns.units(d, 0, 3);
+            Towns.units(d, 1, 1);
             d.change(variant, 3, 0);
-            Check.refused("4 there in variant " + v, STATE, () -> d.unit(0));
+            Check.refused("4 there in variant " + v, Check.STATE, () -> d.unit(0));
             d.change(variant, 3, -1);
             Check.due("3 there again in variant " + v, 4, () -> d.unit(0));
         }
-        DaySimulate d = stations(2);
-        units(d, 0, 4);
+        DaySimulate d = Towns.stations(2);
+        Towns.units(d, 0, 4);
         for (int v = 1; v <= 3; v++) {
             d.change(v, 3, 1);
         }
-        Check.refused("4 there in variant 0 alone", STATE, () -> d.unit(0));
+        Check.refused("4 there in variant 0 alone", Check.STATE, () -> d.unit(0));
     }
 
     private static void promise5() {
-        DaySimulate d = stations(2);
-        units(d, 0, 4);
-        units(d, 1, 2);
+        DaySimulate d = Towns.stations(2);
+        Towns.units(d, 0, 4);
+        Towns.units(d, 1, 2);
         int[][] wrong = {{0, 0, 0}, {4, 0, 0}, {-1, 0, 0}, {1, -1, 0}, {1, 6, 0}, {1, 0, -2}, {1, 0, 2}, {MIN, 0, 0},
             {1, MAX, 0}, {1, 0, MAX}, {1, 0, MIN}, {0, 4, 0}};
         for (int[] c : wrong) {
-            Check.refused("change " + c[0] + " " + c[1] + " " + c[2], UNKNOWN, () -> d.change(c[0], c[1], c[2]));
+            Check.refused("change " + c[0] + " " + c[1] + " " + c[2], Check.UNKNOWN, () -> d.change(c[0], c[1], c[2]));
         }
-        Check.refused("4 others there", STATE, () -> d.change(1, 4, 0));
+        Check.refused("4 others there", Check.STATE, () -> d.change(1, 4, 0));
         d.change(1, 0, 0);
         d.change(1, 0, -1);
         d.change(1, 4, 0);
-        Check.refused("4 others there by a change", STATE, () -> d.change(1, 0, 0));
-        Check.refused("other variants are not changed", STATE, () -> d.change(2, 4, 0));
+        Check.refused("4 others there by a change", Check.STATE, () -> d.change(1, 0, 0));
+        Check.refused("other variants are not changed", Check.STATE, () -> d.change(2, 4, 0));
         d.area(0, 0, 1);
         Check.due("run of variant 1", 0, () -> d.run(1, 0, 0, 1));
         Check.due("unit 0 is left out", 1, () -> d.call(0, 3));
@@ -186,11 +158,11 @@ public final class PromisesTest {
     }
 
     private static void promise6() {
-        DaySimulate d = one(9);
+        DaySimulate d = Towns.one(9);
         int[][] wrong = {{0, 0}, {10, 0}, {-1, 0}, {1, -1}, {1, 1001}, {MIN, 5}, {5, MAX}, {MAX, 5}, {5, MIN}};
         d.rules(9, 1000);
         for (int[] r : wrong) {
-            Check.refused("rules(" + r[0] + ", " + r[1] + ")", RANGE, () -> d.rules(r[0], r[1]));
+            Check.refused("rules(" + r[0] + ", " + r[1] + ")", Check.RANGE, () -> d.rules(r[0], r[1]));
         }
         d.run(0, 0, 0, 1);
         Check.due("way of 9 places at pace 9, 81 over 4 rounded up", 21, () -> d.call(0, 4));
@@ -206,35 +178,35 @@ public final class PromisesTest {
         Check.due("9 over 4 rounded up", 0, () -> d.run(0, 0, 0, 1));
         Check.due("is 3", 3, () -> d.call(0, 4));
         d.rules(1, 0);
-        DaySimulate none = one(0);
+        DaySimulate none = Towns.one(0);
         none.rules(9, 0);
         Check.due("no way takes no minute", 0, () -> none.run(0, 0, 0, 1));
     }
 
     private static void promise7Refusals() {
-        DaySimulate d = one(0);
+        DaySimulate d = Towns.one(0);
         d.run(0, 0, 0, 1);
-        Check.refused("variant -1", UNKNOWN, () -> d.run(-1, 0, 0, 0));
-        Check.refused("variant 4", UNKNOWN, () -> d.run(4, 0, 1000, 61));
-        Check.refused("day -1", RANGE, () -> d.run(0, 0, -1, 0));
-        Check.refused("day 1000", RANGE, () -> d.run(0, 0, 1000, 0));
-        Check.refused("calls -1", RANGE, () -> d.run(0, 0, 0, -1));
-        Check.refused("calls 61", RANGE, () -> d.run(0, 0, 0, 61));
+        Check.refused("variant -1", Check.UNKNOWN, () -> d.run(-1, 0, 0, 0));
+        Check.refused("variant 4", Check.UNKNOWN, () -> d.run(4, 0, 1000, 61));
+        Check.refused("day -1", Check.RANGE, () -> d.run(0, 0, -1, 0));
+        Check.refused("day 1000", Check.RANGE, () -> d.run(0, 0, 1000, 0));
+        Check.refused("calls -1", Check.RANGE, () -> d.run(0, 0, 0, -1));
+        Check.refused("calls 61", Check.RANGE, () -> d.run(0, 0, 0, 61));
         Check.due("what is refused leaves the run", 74, () -> d.work(0));
         DaySimulate bare = new DaySimulate();
-        Check.refused("no areas, no such day", RANGE, () -> bare.run(3, 0, 1000, 1));
-        Check.refused("no areas, no such variant", UNKNOWN, () -> bare.run(4, 0, 0, 1));
-        Check.refused("no areas", STATE, () -> bare.run(3, 0, 999, 60));
+        Check.refused("no areas, no such day", Check.RANGE, () -> bare.run(3, 0, 1000, 1));
+        Check.refused("no areas, no such variant", Check.UNKNOWN, () -> bare.run(4, 0, 0, 1));
+        Check.refused("no areas", Check.STATE, () -> bare.run(3, 0, 999, 60));
         Check.due("no areas, no calls", 0, () -> bare.run(3, 0, 999, 0));
         DaySimulate noUnits = new DaySimulate();
         noUnits.area(1, 1, 1);
         Check.due("no units, no stations", 60, () -> noUnits.run(0, 0, 0, 60));
         Check.due("run of no calls behind it", 0, () -> noUnits.run(0, 0, 0, 0));
-        Check.refused("has no calls", UNKNOWN, () -> noUnits.call(0, 0));
+        Check.refused("has no calls", Check.UNKNOWN, () -> noUnits.call(0, 0));
     }
 
     private static void delays(String what, int seed, int... want) {
-        DaySimulate d = one(0);
+        DaySimulate d = Towns.one(0);
         d.run(0, seed, 0, want.length);
         for (int i = 0; i < want.length; i++) {
             int number = i;
@@ -254,7 +226,7 @@ public final class PromisesTest {
     }
 
     private static DaySimulate rowOfUnits(int... stationOfUnit) {
-        DaySimulate d = stations(6);
+        DaySimulate d = Towns.stations(6);
         d.area(20, 3, 1);
         for (int s : stationOfUnit) {
             d.unit(s);
@@ -290,7 +262,7 @@ public final class PromisesTest {
     }
 
     private static void promise7Draws() {
-        DaySimulate d = one(0);
+        DaySimulate d = Towns.one(0);
         int[][] draws = {{0, 0, 0, 3, 74}, {1, 0, 1035, 0, 67}, {-3, 0, 394, 0, 75}, {-1, 999, 1139, 3, 62},
             {903, 0, 1439, 1, 29}, {MAX, 0, 477, 3, 29}, {MIN, 0, 105, 3, 28}, {7, 3, 1056, 0, 16}};
         for (int[] draw : draws) {
@@ -310,7 +282,7 @@ public final class PromisesTest {
 
     private static void promise8() {
         // (385, 1, 72), (397, 0, 16), (433, 3, 76)
-        DaySimulate d = one(8);
+        DaySimulate d = Towns.one(8);
         d.run(0, 854, 0, 3);
         int[][] want = {{385, 0, 1, 0, 2, 0}, {397, 0, 0, 0, 146, 1}, {433, 0, 3, 0, 30, 1}};
         for (int i = 0; i < 3; i++) {
@@ -322,7 +294,7 @@ public final class PromisesTest {
         }
         int[][] wrong = {{-1, 0}, {3, 0}, {0, -1}, {0, 6}, {MAX, 5}, {MIN, 5}, {0, MAX}, {0, MIN}, {3, 6}};
         for (int[] w : wrong) {
-            Check.refused("call(" + w[0] + ", " + w[1] + ")", UNKNOWN, () -> d.call(w[0], w[1]));
+            Check.refused("call(" + w[0] + ", " + w[1] + ")", Check.UNKNOWN, () -> d.call(w[0], w[1]));
         }
         d.rules(9, 30);
         Check.due("in time by a later mark", 0, () -> d.call(2, 5));
@@ -343,7 +315,7 @@ public final class PromisesTest {
     }
 
     private static void promise9() {
-        DaySimulate d = one(0);
+        DaySimulate d = Towns.one(0);
         d.run(0, 854, 0, 3);
         Check.due("one of three in time", 1, () -> d.share(0));
         Check.due("of three", 3, () -> d.share(1));
@@ -352,8 +324,8 @@ public final class PromisesTest {
         d.rules(1, 136);
         Check.due("all in time", 1, () -> d.share(0));
         Check.due("over one", 1, () -> d.share(1));
-        Check.refused("share(-1)", UNKNOWN, () -> d.share(-1));
-        Check.refused("share(2)", UNKNOWN, () -> d.share(2));
+        Check.refused("share(-1)", Check.UNKNOWN, () -> d.share(-1));
+        Check.refused("share(2)", Check.UNKNOWN, () -> d.share(2));
         d.change(1, 0, -1);
         d.run(1, 854, 0, 3);
         Check.due("none in time", 0, () -> d.share(0));
@@ -363,12 +335,12 @@ public final class PromisesTest {
         int late = d.run(0, 7, 3, 20);
         Check.due("share times calls is what is in time", (20 - late) * (long) d.share(1), () -> 20L * d.share(0));
         d.run(0, 854, 0, 0);
-        Check.refused("share of no calls", NONE, () -> d.share(0));
-        Check.refused("no such what is ahead of no calls", UNKNOWN, () -> d.share(2));
+        Check.refused("share of no calls", Check.NONE, () -> d.share(0));
+        Check.refused("no such what is ahead of no calls", Check.UNKNOWN, () -> d.share(2));
     }
 
     private static void promise10() {
-        DaySimulate d = one(0);
+        DaySimulate d = Towns.one(0);
         d.run(0, 854, 0, 3);
         Check.due("160 over 3", 53333, d::mean);
         d.run(0, 89, 0, 3);
@@ -378,10 +350,10 @@ public final class PromisesTest {
         d.run(0, 0, 0, 1);
         Check.due("no delay", 0, d::mean);
         d.run(0, 0, 0, 0);
-        Check.refused("no calls", NONE, d::mean);
+        Check.refused("no calls", Check.NONE, d::mean);
         d.change(1, 0, -1);
         d.run(1, 0, 0, 60);
-        Check.refused("none served", NONE, d::mean);
+        Check.refused("none served", Check.NONE, d::mean);
         DaySimulate far = new DaySimulate();
         far.station(0, 0);
         far.area(99, 99, 1);
@@ -396,7 +368,7 @@ public final class PromisesTest {
     }
 
     private static void missed(String what, int want, int seed, int calls) {
-        DaySimulate d = one(0);
+        DaySimulate d = Towns.one(0);
         d.run(0, seed, 0, calls);
         Check.due("missed: " + what, want, d::missed);
     }
@@ -407,7 +379,7 @@ public final class PromisesTest {
         missed("behind the last call too", 83, 1048, 2);
         missed("one call behind the other", 164, 854, 3);
         missed("no calls", 0, 0, 0);
-        DaySimulate d = one(0);
+        DaySimulate d = Towns.one(0);
         d.change(1, 0, -1);
         d.run(1, 0, 0, 5);
         Check.due("no units: all minutes", 1440, d::missed);
@@ -422,14 +394,14 @@ public final class PromisesTest {
     }
 
     private static void promise12() {
-        DaySimulate d = one(8);
+        DaySimulate d = Towns.one(8);
         d.unit(0);
         d.run(0, 854, 0, 3);
         Check.due("unit 0 has call 0", 72 + 4, () -> d.work(0));
         Check.due("unit 1 has the others", 16 + 4 + 76 + 4, () -> d.work(1));
-        Check.refused("unit -1", UNKNOWN, () -> d.work(-1));
-        Check.refused("unit 2", UNKNOWN, () -> d.work(2));
-        Check.refused("unit MAX", UNKNOWN, () -> d.work(MAX));
+        Check.refused("unit -1", Check.UNKNOWN, () -> d.work(-1));
+        Check.refused("unit 2", Check.UNKNOWN, () -> d.work(2));
+        Check.refused("unit MAX", Check.UNKNOWN, () -> d.work(MAX));
         d.unit(0);
         Check.due("a unit that came later", 0, () -> d.work(2));
         d.run(0, 903, 0, 1);
@@ -452,7 +424,7 @@ public final class PromisesTest {
         Check.due("hour 0", 0, none::worst);
         none.run(0, 903, 0, 1);
         Check.due("hour 23", 23, none::worst);
-        DaySimulate d = one(0);
+        DaySimulate d = Towns.one(0);
         d.run(0, 1048, 0, 2);
         Check.due("none late", -1, d::worst);
         // delays 0, 136, 24 in hours 6, 6, 7
@@ -464,16 +436,16 @@ public final class PromisesTest {
     }
 
     private static void promise14() {
-        DaySimulate d = one(8);
+        DaySimulate d = Towns.one(8);
         d.run(0, 854, 0, 3);
         // out at 385, 461, 541; there two minutes later
         int[][] want = {{0, 0}, {386, 0}, {387, 1}, {462, 1}, {463, 2}, {542, 2}, {543, 3}, {9999, 3}};
         for (int[] w : want) {
             Check.due("arrived(" + w[0] + ")", w[1], () -> d.arrived(w[0]));
         }
-        Check.refused("arrived(-1)", RANGE, () -> d.arrived(-1));
-        Check.refused("arrived(10000)", RANGE, () -> d.arrived(10000));
-        Check.refused("arrived(MIN)", RANGE, () -> d.arrived(MIN));
+        Check.refused("arrived(-1)", Check.RANGE, () -> d.arrived(-1));
+        Check.refused("arrived(10000)", Check.RANGE, () -> d.arrived(10000));
+        Check.refused("arrived(MIN)", Check.RANGE, () -> d.arrived(MIN));
         d.change(1, 0, -1);
         d.run(1, 854, 0, 3);
         Check.due("never served, never there", 0, () -> d.arrived(9999));
@@ -509,22 +481,22 @@ public final class PromisesTest {
     }
 
     private static void promise15Refusals() {
-        DaySimulate d = one(0);
+        DaySimulate d = Towns.one(0);
         d.run(0, 0, 0, 1);
         int[][] unknown = {{-1, 0, 1, 0, 1}, {4, 0, 1, 0, 1}, {4, 0, 9, 0, 1}};
         for (int[] u : unknown) {
-            Check.refused("unlucky variant " + u[0], UNKNOWN, () -> d.unlucky(u[0], u[1], u[2], u[3], u[4]));
+            Check.refused("unlucky variant " + u[0], Check.UNKNOWN, () -> d.unlucky(u[0], u[1], u[2], u[3], u[4]));
         }
         int[][] range = {{0, 0, 0, 0, 1}, {0, 0, 9, 0, 1}, {0, 0, 1, -1, 1}, {0, 0, 1, 1000, 1}, {0, 0, 1, 0, -1},
             {0, 0, 1, 0, 61}, {0, 0, MIN, 0, 1}, {0, 0, MAX, 0, 1}};
         for (int[] r : range) {
-            Check.refused("unlucky of " + r[2] + ", " + r[3] + ", " + r[4], RANGE,
+            Check.refused("unlucky of " + r[2] + ", " + r[3] + ", " + r[4], Check.RANGE,
                     () -> d.unlucky(r[0], r[1], r[2], r[3], r[4]));
         }
         Check.due("what is refused leaves the run", 74, () -> d.work(0));
         DaySimulate bare = new DaySimulate();
-        Check.refused("unlucky without areas", STATE, () -> bare.unlucky(0, 0, 1, 0, 1));
-        Check.refused("unlucky without areas, range first", RANGE, () -> bare.unlucky(0, 0, 9, 0, 1));
+        Check.refused("unlucky without areas", Check.STATE, () -> bare.unlucky(0, 0, 1, 0, 1));
+        Check.refused("unlucky without areas, range first", Check.RANGE, () -> bare.unlucky(0, 0, 9, 0, 1));
         Check.due("unlucky without areas and calls", 9, () -> bare.unlucky(0, 9, 8, 999, 0));
     }
 
@@ -595,22 +567,22 @@ public final class PromisesTest {
     }
 
     private static void promise16Refusals() {
-        DaySimulate d = one(0);
+        DaySimulate d = Towns.one(0);
         d.run(0, 0, 0, 1);
         int[][] unknown = {{-1, 0, 0, 1, 0}, {4, 0, 0, 1, 0}, {0, -1, 0, 1, 0}, {0, 4, 0, 1, 0}, {0, 0, 0, 1, -1},
             {0, 0, 0, 1, 4}, {0, 0, 1000, 0, 4}};
         for (int[] u : unknown) {
-            Check.refused("compare of " + u[0] + ", " + u[1] + ", " + u[4], UNKNOWN,
+            Check.refused("compare of " + u[0] + ", " + u[1] + ", " + u[4], Check.UNKNOWN,
                     () -> d.compare(u[0], u[1], 0, u[2], u[3], u[4]));
         }
         int[][] range = {{0, 0}, {0, 21}, {-1, 1}, {1000, 1}, {999, 2}, {981, 20}, {MAX, 20}, {MIN, 20}, {0, MIN},
             {0, MAX}, {5, -5}, {1001, -1}};
         for (int[] r : range) {
-            Check.refused("compare from " + r[0] + " on " + r[1], RANGE, () -> d.compare(0, 1, 0, r[0], r[1], 0));
+            Check.refused("compare from " + r[0] + " on " + r[1], Check.RANGE, () -> d.compare(0, 1, 0, r[0], r[1], 0));
         }
         Check.due("what is refused leaves the run", 74, () -> d.work(0));
         DaySimulate bare = new DaySimulate();
-        Check.refused("compare without areas", STATE, () -> bare.compare(0, 1, 0, 0, 1, 0));
-        Check.refused("compare without areas, range first", RANGE, () -> bare.compare(0, 1, 0, 0, 21, 0));
+        Check.refused("compare without areas", Check.STATE, () -> bare.compare(0, 1, 0, 0, 1, 0));
+        Check.refused("compare without areas, range first", Check.RANGE, () -> bare.compare(0, 1, 0, 0, 21, 0));
     }
 }
