@@ -22,7 +22,8 @@ public final class DaySimulate {
     private static final int MAX_COMPARED_DAYS = 20;
     private static final int COMPARED_CALLS = 12;
     private static final int NONE = -1;
-    private static final int NEVER = Integer.MAX_VALUE;
+    /** Above every minute and every way that a run can come to. */
+    private static final int NEVER = 0x7FFFFFFF;
     /** Something happens only when a call begins or a unit comes back, and in minute 0. */
     private static final int MAX_EVENTS = 2 * MAX_CALLS + 1;
     /** Far above the steps that Euclid's way needs for any two ints. */
@@ -66,7 +67,7 @@ public final class DaySimulate {
         needKnown(isWithin(variant, 1, VARIANTS - 1) && isBelow(unit, fleet.units));
         needKnown(station == NONE || isBelow(station, town.stations));
         needState(station == NONE || fleet.countOthers(variant, station, unit) < MAX_UNITS_AT_STATION);
-        fleet.stationOf[variant][unit] = station;
+        fleet.move(variant, unit, station);
     }
 
     public void rules(int pace, int mark) throws IndexOutOfBoundsException {
@@ -305,6 +306,10 @@ public final class DaySimulate {
                 stationOf[v][units] = station;
             }
             return units++;
+        }
+
+        void move(int variant, int unit, int station) {
+            stationOf[variant][unit] = station;
         }
 
         boolean hasRoomInAllVariants(int station) {

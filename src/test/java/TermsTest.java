@@ -33,6 +33,7 @@ public final class TermsTest {
         variantWithoutUnits();
         delay();
         late();
+        lateByTheMarkOfNow();
         mark();
         missed();
         work();
@@ -501,6 +502,27 @@ public final class TermsTest {
         Check.due("of 60 calls those above 10", 55, () -> none.run(0, 1114, 0, 60));
     }
 
+    /** The calls not late, of 3, and the hour of most late calls, as the mark goes up and down behind the run. */
+    private static void lateByTheMarkOfNow() {
+        Check.sentence("It is LATE when that is above the MARK .. ; why it is late (by the mark as it is now)");
+        // (385, 1, 72), (397, 0, 16), (433, 3, 76): delays 0, 136, 24
+        DaySimulate d = Towns.one(0);
+        d.run(0, 854, 0, 3);
+        // mark, upper and lower number of the share, worst hour, why of calls 0 to 2
+        int[][] marks = {{10, 1, 3, 6, 0, 1, 1}, {23, 1, 3, 6, 0, 1, 1}, {24, 2, 3, 6, 0, 1, 0},
+            {135, 2, 3, 6, 0, 1, 0}, {136, 1, 1, -1, 0, 0, 0}, {0, 1, 3, 6, 0, 1, 1}};
+        for (int[] m : marks) {
+            d.rules(1, m[0]);
+            Check.due("upper at mark " + m[0], m[1], () -> d.share(0));
+            Check.due("lower at mark " + m[0], m[2], () -> d.share(1));
+            Check.due("worst at mark " + m[0], m[3], d::worst);
+            for (int i = 0; i < 3; i++) {
+                int number = i;
+                Check.due("why of call " + i + " at mark " + m[0], m[4 + i], () -> d.call(number, 5));
+            }
+        }
+    }
+
     private static void mark() {
         Check.sentence("the MARK (0 .. 1,000; 10 at first)");
         Check.due("a way of 10 at first", 0, () -> Towns.one(40).run(0, 0, 0, 1));
@@ -542,6 +564,14 @@ public final class TermsTest {
         d.change(1, 0, -1);
         d.run(1, 1728, 0, 2);
         Check.due("all minutes without units", 1440, d::missed);
+        d.run(1, 1728, 0, 0);
+        Check.due("all minutes without units, without calls too", 1440, d::missed);
+        d.run(0, 1728, 0, 0);
+        Check.due("none with units, without calls", 0, d::missed);
+        // (0, 3, 74)
+        DaySimulate single = Towns.one(8);
+        single.run(0, 0, 0, 1);
+        Check.due("behind the last call sent too, with both ways", 2 + 74 + 2, single::missed);
     }
 
     private static void work() {
